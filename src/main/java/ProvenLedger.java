@@ -26,7 +26,7 @@ public final class ProvenLedger {
     private static final int NOTHING = 3;
 
     // A fork has at most all accounts below it, each in a node referred to by a hash, and five empty rows.
-    private static final int LONGEST_CODE = LONGEST_HEAD + MOST_ACCOUNTS * (1 + HASH_BYTES) + BASE + 1 - MOST_ACCOUNTS;
+    private static final int LONGEST_CODE = LONGEST_HEAD + MOST_ACCOUNTS * (1 + HASH_BYTES) + 5;
     // Every fork parts the accounts once more, and below every stem stands a fork.
     private static final int MOST_NODES = MOST_ACCOUNTS + 2 * (MOST_ACCOUNTS - 1);
     // A node takes fewer than 30 bytes for itself and at most 33 in the node above it.
@@ -831,8 +831,6 @@ public final class ProvenLedger {
             account = wanted;
             depth = 0;
             found = false;
-            nonce = 0;
-            balance = 0;
             if (!enterPart(0, root, root.length, 0)) {
                 return BAD;
             }
@@ -847,6 +845,7 @@ public final class ProvenLedger {
             return found ? 1 : 0;
         }
 
+        /** What the latest follow() found, if it answered 1. */
         long foundNonce() {
             return nonce;
         }
@@ -855,7 +854,7 @@ public final class ProvenLedger {
             return balance;
         }
 
-        /** Goes to the begin of a part if there is one and its hash stands at a place of a row. */
+        /** Goes to the beginning of a part if there is one and its hash stands at a place of a row. */
         private boolean enterPart(int p, int[] referring, int length, int hashPlace) {
             if (!proof.hasPart(p)) {
                 return false;
@@ -950,7 +949,7 @@ public final class ProvenLedger {
             balance = second == NOWHERE ? 0 : numberAt(second, itemEnd(second));
         }
 
-        // An item that can't be read ends NOWHERE, before its begin, so that it has no bytes and makes 0.
+        // An item that can't be read ends NOWHERE, before its beginning, so that it has no bytes and makes 0.
         private long numberAt(int item, int end) {
             long number = 0;
             for (int i = bytesBegin(item); i < end; i++) {

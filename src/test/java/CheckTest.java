@@ -72,6 +72,7 @@ public final class CheckTest {
         found("f is 4", "cb 824012" + LEAF_BEHIND_12, 5, 7);
         found("all digits", "ca 83001234 c5 20" + VALUE, 5, 7);
         notFound("digits behind the fourth", "ca 83001234 c5 34" + VALUE);
+        notFound("five digits", "e5 83112340" + NO_HASH);
         found("no digits", "ca 00" + LEAF, 5, 7);
         found("no digits twice", "cc 00 ca 00" + LEAF, 5, 7);
         String deep = LEAF;
@@ -99,12 +100,16 @@ public final class CheckTest {
         check("an item that can't be read is no way", 0x2234, "cc 8080 b8 80" + LEAF_BEHIND_1, 0, 0, 0);
         check("lists and rows before it", 0x3234, "cc c20505 820505 05" + LEAF_BEHIND_1, 1, 5, 7);
         check("beyond the part all bytes are 0", 0xf234, "cc 8080", 0, 0, 0);
-        notFound("at depth 4", "e7 83001234 e2" + NO_HASH + "80");
+        found("a row of 55 bytes before it", "cc b7" + "05".repeat(55) + LEAF_BEHIND_1, 5, 7);
+        found("a list of 55 bytes before it", "cc f7" + "05".repeat(55) + LEAF_BEHIND_1, 5, 7);
+        found("an empty list, with items behind it", "c4 820012 c0 80 80 80 c5 34" + VALUE, 5, 7);
+        notFound("at depth 4", "e8 83001234 e3" + NO_HASH + "80 80");
     }
 
     private static void longNodes() {
         found("one byte for the length", "f808 83201234" + VALUE, 5, 7);
         found("two bytes for the length", "f90008 83201234" + VALUE, 5, 7);
+        notFound("three bytes for the length", "fa000008 83201234" + VALUE);
         notFound("a wrong length of one byte", "f809 83201234" + VALUE);
         notFound("a wrong length of two bytes", "f90108 83201234" + VALUE);
         notFound("the lower byte first", "f90800 83201234" + VALUE);
