@@ -2,7 +2,6 @@
 public final class PromisesTest {
     private static final Due DUE = new Due("PromisesTest");
     private static final long MOST = 1000000000000L;
-    private static final int[] NO_ACCOUNTS = {-1, 65536, Integer.MIN_VALUE, Integer.MAX_VALUE};
     private static final long[] EMPTY_ROOT = {
         0x56e81f171bcc55a6L, 0xff8345e692c0f86eL, 0x5b48e01b996cadc0L, 0x01622fb5e363b421L,
     };
@@ -55,7 +54,7 @@ public final class PromisesTest {
         ProvenLedger x = new ProvenLedger();
         x.grant(1, 100);
         DUE.isTrue("collector(65535)", x.collector(65535));
-        for (int account : NO_ACCOUNTS) {
+        for (int account : Ledgers.NO_ACCOUNTS) {
             DUE.isFalse("collector(" + account + ")", x.collector(account));
         }
         DUE.is("collector alone is not there", x.accounts(), 1);
@@ -77,14 +76,14 @@ public final class PromisesTest {
         DUE.is("grant grows", x.grant(65535, MOST), 2);
         DUE.is("grant: balance", x.balance(65535), 2 * MOST);
         DUE.is("grant: no nonce", x.nonce(65535), 0);
-        for (int account : NO_ACCOUNTS) {
+        for (int account : Ledgers.NO_ACCOUNTS) {
             DUE.is("grant(" + account + ", 1)", x.grant(account, 1), ProvenLedger.BAD);
         }
         for (long amount : new long[] {0, -1, MOST + 1, Long.MAX_VALUE, Long.MIN_VALUE}) {
             DUE.is("grant(0, " + amount + ")", x.grant(0, amount), ProvenLedger.BAD);
         }
         DUE.is("grant refused changes nothing", x.balance(0), 1);
-        fill(x, 10);
+        Ledgers.fill(x, 10);
         DUE.is("grant: the 13th", x.grant(40000, 1), ProvenLedger.FULL);
         DUE.is("grant: FULL changes nothing", x.balance(40000), 0);
         DUE.is("grant: BAD stands before FULL", x.grant(40000, 0), ProvenLedger.BAD);
@@ -96,33 +95,33 @@ public final class PromisesTest {
         x.collector(9);
         x.grant(1, 1000);
         DUE.is("send", x.send(1, 2, 300, 5, 0), 3);
-        has("send: from", x, 1, 1, 695);
-        has("send: to", x, 2, 0, 300);
-        has("send: collector", x, 9, 0, 5);
+        Ledgers.accountIs(DUE, "send: from", x, 1, 1, 695);
+        Ledgers.accountIs(DUE, "send: to", x, 2, 0, 300);
+        Ledgers.accountIs(DUE, "send: collector", x, 9, 0, 5);
         DUE.is("send to itself", x.send(1, 1, 690, 5, 1), 3);
-        has("send to itself", x, 1, 2, 690);
+        Ledgers.accountIs(DUE, "send to itself", x, 1, 2, 690);
         DUE.is("send to the collector", x.send(1, 9, 80, 10, 2), 3);
-        has("send to the collector: from", x, 1, 3, 600);
-        has("send to the collector: to", x, 9, 0, 100);
+        Ledgers.accountIs(DUE, "send to the collector: from", x, 1, 3, 600);
+        Ledgers.accountIs(DUE, "send to the collector: to", x, 9, 0, 100);
         DUE.is("send from the collector", x.send(9, 2, 60, 40, 0), 3);
-        has("send from the collector", x, 9, 1, 40);
+        Ledgers.accountIs(DUE, "send from the collector", x, 9, 1, 40);
         DUE.is("send, all three the same", x.send(9, 9, 30, 10, 1), 3);
-        has("send, all three the same", x, 9, 2, 40);
+        Ledgers.accountIs(DUE, "send, all three the same", x, 9, 2, 40);
         DUE.is("send all there is", x.send(2, 1, 300, 60, 0), 3);
-        has("send all there is: from is there by its nonce", x, 2, 1, 0);
+        Ledgers.accountIs(DUE, "send all there is: from is there by its nonce", x, 2, 1, 0);
         DUE.is("send nothing from an account that is not there", x.send(77, 78, 0, 0, 0), 4);
-        has("send nothing: from", x, 77, 1, 0);
-        has("send nothing: to", x, 78, 0, 0);
+        Ledgers.accountIs(DUE, "send nothing: from", x, 77, 1, 0);
+        Ledgers.accountIs(DUE, "send nothing: to", x, 78, 0, 0);
         x.grant(65535, MOST);
         x.grant(65535, MOST);
         DUE.is("send the most of both", x.send(65535, 0, MOST, MOST, 0), 6);
-        has("send the most of both: to", x, 0, 0, MOST);
+        Ledgers.accountIs(DUE, "send the most of both: to", x, 0, 0, MOST);
     }
 
     private static void promise4SendRefused() {
         ProvenLedger x = new ProvenLedger();
         x.grant(1, 10);
-        for (int account : NO_ACCOUNTS) {
+        for (int account : Ledgers.NO_ACCOUNTS) {
             DUE.is("send from " + account, x.send(account, 1, 0, 0, 0), ProvenLedger.BAD);
             DUE.is("send to " + account, x.send(1, account, 1, 0, 0), ProvenLedger.BAD);
         }
@@ -137,16 +136,15 @@ public final class PromisesTest {
         DUE.is("send: poor by both", x.send(1, 2, 6, 5, 0), ProvenLedger.POOR);
         DUE.is("send: poor to itself", x.send(1, 1, 11, 0, 0), ProvenLedger.POOR);
         DUE.is("send: poor from the collector", x.send(0, 0, 0, 1, 0), ProvenLedger.POOR);
-        has("send refused changes nothing", x, 1, 0, 10);
+        Ledgers.accountIs(DUE, "send refused changes nothing", x, 1, 0, 10);
         DUE.is("send refused makes no account", x.accounts(), 1);
     }
 
     private static void promise4SendFull() {
-        ProvenLedger x = new ProvenLedger();
+        ProvenLedger x = Ledgers.filled(11);
         x.collector(50000);
-        fill(x, 11);
         DUE.is("send: to and collector would be 13", x.send(100, 60000, 1, 1, 0), ProvenLedger.FULL);
-        has("send: FULL changes nothing", x, 100, 0, 1000);
+        Ledgers.accountIs(DUE, "send: FULL changes nothing", x, 100, 0, 1000);
         DUE.is("send: to is the collector, 12", x.send(100, 50000, 1, 1, 0), 12);
         DUE.is("send: to would be the 13th", x.send(100, 60000, 1, 0, 1), ProvenLedger.FULL);
         DUE.is("send: from would be the 13th", x.send(60000, 100, 0, 0, 0), ProvenLedger.FULL);
@@ -163,12 +161,12 @@ public final class PromisesTest {
         x.send(5, 5, 0, 0, 0);
         x.grant(65535, 1);
         DUE.isFalse("close one that is not there", x.close(6));
-        for (int account : NO_ACCOUNTS) {
+        for (int account : Ledgers.NO_ACCOUNTS) {
             DUE.isFalse("close(" + account + ")", x.close(account));
         }
         DUE.is("close refused changes nothing", x.accounts(), 2);
         DUE.isTrue("close(5)", x.close(5));
-        has("closed", x, 5, 0, 0);
+        Ledgers.accountIs(DUE, "closed", x, 5, 0, 0);
         DUE.isFalse("close(5) again", x.close(5));
         DUE.isTrue("close(65535)", x.close(65535));
         DUE.is("all closed", x.accounts(), 0);
@@ -187,7 +185,7 @@ public final class PromisesTest {
         }
         DUE.is("nonce after 300", x.nonce(5), 300);
         DUE.is("nonce of one that is not there", x.nonce(6), 0);
-        for (int account : NO_ACCOUNTS) {
+        for (int account : Ledgers.NO_ACCOUNTS) {
             DUE.is("nonce(" + account + ")", x.nonce(account), 0);
         }
     }
@@ -199,14 +197,13 @@ public final class PromisesTest {
         }
         DUE.is("balance after 400 grants", x.balance(5), 400 * MOST);
         DUE.is("balance of one that is not there", x.balance(6), 0);
-        for (int account : NO_ACCOUNTS) {
+        for (int account : Ledgers.NO_ACCOUNTS) {
             DUE.is("balance(" + account + ")", x.balance(account), 0);
         }
     }
 
     private static void promise8Accounts() {
-        ProvenLedger x = new ProvenLedger();
-        fill(x, 12);
+        ProvenLedger x = Ledgers.filled(12);
         DUE.is("accounts()", x.accounts(), 12);
         x.close(104);
         DUE.is("accounts() after close", x.accounts(), 11);
@@ -239,17 +236,17 @@ public final class PromisesTest {
 
     private static void promise10Nodes() {
         ProvenLedger x = new ProvenLedger();
-        nodesAre("none", x, 0, 0, 0);
+        Ledgers.nodesAre(DUE, "none", x, 0, 0, 0);
         x.grant(0x1234, 1);
-        nodesAre("one", x, 1, 0, 0);
+        Ledgers.nodesAre(DUE, "one", x, 1, 0, 0);
         x.grant(0x1235, 1);
-        nodesAre("a stem of three digits", x, 2, 1, 1);
+        Ledgers.nodesAre(DUE, "a stem of three digits", x, 2, 1, 1);
         x.grant(0x1334, 1);
-        nodesAre("two stems", x, 3, 2, 2);
+        Ledgers.nodesAre(DUE, "two stems", x, 3, 2, 2);
         x.grant(0x2000, 1);
-        nodesAre("a stem less", x, 4, 1, 3);
+        Ledgers.nodesAre(DUE, "a stem less", x, 4, 1, 3);
         x.close(0x1235);
-        nodesAre("closed", x, 3, 0, 2);
+        Ledgers.nodesAre(DUE, "closed", x, 3, 0, 2);
         for (int kind : new int[] {-1, 3, Integer.MIN_VALUE, Integer.MAX_VALUE}) {
             DUE.is("nodes(" + kind + ")", x.nodes(kind), ProvenLedger.BAD);
         }
@@ -292,7 +289,7 @@ public final class PromisesTest {
         ProvenLedger x = new ProvenLedger();
         DUE.is("prove of none", x.prove(0), 1);
         proofIs("of none", x, new int[][] {{128}});
-        for (int account : NO_ACCOUNTS) {
+        for (int account : Ledgers.NO_ACCOUNTS) {
             DUE.is("prove(" + account + ")", x.prove(account), ProvenLedger.BAD);
         }
         proofIs("kept when refused", x, new int[][] {{128}});
@@ -331,7 +328,7 @@ public final class PromisesTest {
     }
 
     private static void promise13Parts() {
-        ProvenLedger x = deep();
+        ProvenLedger x = Ledgers.deep();
         DUE.is("parts() before prove", x.parts(), 0);
         DUE.is("prove, four parts", x.prove(0x8001), 4);
         DUE.is("parts()", x.parts(), 4);
@@ -340,7 +337,7 @@ public final class PromisesTest {
     }
 
     private static void promise14Length() {
-        ProvenLedger x = deep();
+        ProvenLedger x = Ledgers.deep();
         DUE.is("length(0) without a proof", x.length(0), ProvenLedger.BAD);
         x.prove(0x8001);
         DUE.is("length(0)", x.length(0), x.size());
@@ -353,7 +350,7 @@ public final class PromisesTest {
     }
 
     private static void promise15Part() {
-        ProvenLedger x = deep();
+        ProvenLedger x = Ledgers.deep();
         DUE.is("part(0, 0) without a proof", x.part(0, 0), ProvenLedger.BAD);
         x.prove(0x8001);
         DUE.is("part(3, 0)", x.part(3, 0), 192 + 34);
@@ -368,7 +365,7 @@ public final class PromisesTest {
     }
 
     private static void promise16Alter() {
-        ProvenLedger x = deep();
+        ProvenLedger x = Ledgers.deep();
         DUE.isFalse("alter without a proof", x.alter(0, 0, 5));
         x.prove(0x8001);
         DUE.is("check before", x.check(0x8001), 1);
@@ -397,7 +394,7 @@ public final class PromisesTest {
     }
 
     private static void promise17Shorten() {
-        ProvenLedger x = deep();
+        ProvenLedger x = Ledgers.deep();
         DUE.is("shorten without a proof", x.shorten(), ProvenLedger.BAD);
         x.prove(0x8001);
         for (int left = 3; left >= 0; left--) {
@@ -413,7 +410,7 @@ public final class PromisesTest {
     }
 
     private static void promise18Check() {
-        ProvenLedger x = deep();
+        ProvenLedger x = Ledgers.deep();
         for (int account : new int[] {0, 1, 0x10, 0x8000, 0x8001, 0x8002, 0x8010, 0x8100, 0xa000}) {
             x.prove(account);
             DUE.is("check(" + account + "), found", x.check(account), 1);
@@ -427,7 +424,7 @@ public final class PromisesTest {
         DUE.is("check for none with the same way", x.check(0x800f), 0);
         DUE.is("check for one that ends in an earlier part", x.check(0x8100), ProvenLedger.BAD);
         DUE.is("check for one that takes another way", x.check(0), ProvenLedger.BAD);
-        for (int account : NO_ACCOUNTS) {
+        for (int account : Ledgers.NO_ACCOUNTS) {
             DUE.is("check(" + account + ")", x.check(account), ProvenLedger.BAD);
         }
         x.grant(0xa000, 1);
@@ -438,7 +435,7 @@ public final class PromisesTest {
     }
 
     private static void promise19Proven() {
-        ProvenLedger x = deep();
+        ProvenLedger x = Ledgers.deep();
         x.send(0x8001, 0x8001, 0, 0, 0);
         provenIs("without a check", x, 0, 0);
         x.prove(0x8001);
@@ -477,43 +474,10 @@ public final class PromisesTest {
         DUE.is("FULL", ProvenLedger.FULL, -4);
     }
 
-    /** Grants 1000 to that many accounts from 100 on. */
-    private static void fill(ProvenLedger x, int accounts) {
-        for (int i = 0; i < accounts; i++) {
-            x.grant(100 + i, 1000);
-        }
-    }
-
-    /** A ledger with forks at all depths on the way to account 0x8001, each referred to by its hash. */
-    private static ProvenLedger deep() {
-        ProvenLedger x = new ProvenLedger();
-        for (int account : new int[] {0, 1, 0x10}) {
-            x.grant(account, 1);
-        }
-        for (int account : new int[] {0x8000, 0x8002}) {
-            x.grant(account, 100);
-        }
-        for (int account : new int[] {0x8001, 0x8010, 0x8100, 0xa000}) {
-            x.grant(account, 500);
-        }
-        return x;
-    }
-
-    private static void has(String what, ProvenLedger x, int account, int nonce, long balance) {
-        DUE.is(what + ", nonce(" + account + ")", x.nonce(account), nonce);
-        DUE.is(what + ", balance(" + account + ")", x.balance(account), balance);
-    }
-
     private static void rootIs(String what, ProvenLedger x, long[] root) {
         for (int k = 0; k < 4; k++) {
             DUE.is(what + ", root(" + k + ")", x.root(k), root[k]);
         }
-    }
-
-    private static void nodesAre(String what, ProvenLedger x, int leaves, int stems, int forks) {
-        DUE.is(what + ", leaves", x.nodes(0), leaves);
-        DUE.is(what + ", stems", x.nodes(1), stems);
-        DUE.is(what + ", forks", x.nodes(2), forks);
     }
 
     private static void proofIs(String what, ProvenLedger x, int[][] parts) {
