@@ -382,6 +382,7 @@ public final class CheckTest {
         byte[] stem = Hex.bytes("e4 820012" + Hex.hashOf(LEAF_BEHIND_12));
         check("two parts", ACCOUNT, List.of(stem, leaf), 1, 5, 7);
         check("there is no next part", ACCOUNT, List.of(stem), -1, 0, 0);
+        check("there is no next part, and the hash is that of no bytes", ACCOUNT, "e4 820012" + Hex.hashOf(""), -1, 0, 0);
         check("another next part", ACCOUNT, List.of(stem, stem), -1, 0, 0);
         check("the right part behind another one", ACCOUNT, List.of(stem, stem, leaf), -1, 0, 0);
         for (int i = 4; i < 36; i++) {

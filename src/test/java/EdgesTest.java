@@ -53,6 +53,14 @@ public final class EdgesTest {
         DUE.is("call 510", sender.prove(0x1234), 1);
         DUE.is("call 511", sender.check(0x1234), 1);
         DUE.is("call 512", sender.proven(0), 509);
+        ProvenLedger changing = Ledgers.filled(12);
+        long first = changing.root(0);
+        for (int call = 14; call <= 510; call += 3) {
+            changing.close(111);
+            changing.grant(111, 1000);
+            DUE.is("call " + (call + 2), changing.root(0), first);
+        }
+        DUE.is("call 512", changing.prove(111), 2);
     }
 
     // ---- promise 1
@@ -402,6 +410,15 @@ public final class EdgesTest {
         Ledgers.nodesAre(DUE, "six stems", pairs, 12, 6, 7);
         ProvenLedger chain = Ledgers.of(0, 1, 1, 1, 0x10, 1, 0x100, 1, 0x1000, 1);
         Ledgers.nodesAre(DUE, "a fork at each depth", chain, 5, 0, 4);
+        chain.close(1);
+        Ledgers.nodesAre(DUE, "one closed", chain, 4, 0, 3);
+        chain.close(0x100);
+        Ledgers.nodesAre(DUE, "two closed", chain, 3, 1, 2);
+        chain.close(0x1000);
+        Ledgers.nodesAre(DUE, "three closed", chain, 2, 1, 1);
+        chain.close(0);
+        chain.close(0x10);
+        Ledgers.nodesAre(DUE, "all closed", chain, 0, 0, 0);
         for (int kind : new int[] {-1, 3, 4, Integer.MIN_VALUE, Integer.MAX_VALUE}) {
             DUE.is("nodes(" + kind + ")", x.nodes(kind), BAD);
             DUE.is("nodes(" + kind + ") of none", new ProvenLedger().nodes(kind), BAD);

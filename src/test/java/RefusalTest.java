@@ -22,6 +22,7 @@ public final class RefusalTest {
     }
 
     public static void main(String[] args) {
+        newObject();
         collectorRefused();
         grantBad();
         grantFull();
@@ -41,7 +42,7 @@ public final class RefusalTest {
         DUE.end();
     }
 
-    /** States to refuse in. In each of them RICH has a balance, and its fee is taken. */
+    /** States to refuse in. In each of them RICH has the nonce 2 and a balance of 488. */
     private enum State implements Supplier<ProvenLedger> {
         WITHOUT_A_PROOF {
             @Override
@@ -90,6 +91,23 @@ public final class RefusalTest {
             x.send(0x8000, 0x8000, 0, 100, 0);
             return x;
         }
+    }
+
+    private static void newObject() {
+        DUE.sentence("A call that is refused changes nothing. (a new object)");
+        Supplier<ProvenLedger> made = ProvenLedger::new;
+        refused(made, "collector(65536)", x -> bit(x.collector(65536)), 0);
+        refused(made, "grant(65536, 1)", x -> x.grant(65536, 1), ProvenLedger.BAD);
+        refused(made, "grant(0, 0)", x -> x.grant(0, 0), ProvenLedger.BAD);
+        refused(made, "send(0, 65536, 0, 0, 0)", x -> x.send(0, 65536, 0, 0, 0), ProvenLedger.BAD);
+        refused(made, "send(0, 0, 0, 0, 1)", x -> x.send(0, 0, 0, 0, 1), ProvenLedger.WRONG_NONCE);
+        refused(made, "send(0, 0, 1, 0, 0)", x -> x.send(0, 0, 1, 0, 0), ProvenLedger.POOR);
+        refused(made, "send(0, 0, 0, 1, 0)", x -> x.send(0, 0, 0, 1, 0), ProvenLedger.POOR);
+        refused(made, "close(0)", x -> bit(x.close(0)), 0);
+        refused(made, "prove(65536)", x -> x.prove(65536), ProvenLedger.BAD);
+        refused(made, "alter(0, 0, 128)", x -> bit(x.alter(0, 0, 128)), 0);
+        refused(made, "shorten()", x -> x.shorten(), ProvenLedger.BAD);
+        refused(made, "check(65536)", x -> x.check(65536), ProvenLedger.BAD);
     }
 
     private static void collectorRefused() {
@@ -290,9 +308,10 @@ public final class RefusalTest {
 
     private static void refused(Supplier<ProvenLedger> made, String what, ToLongFunction<ProvenLedger> call, long answer) {
         ProvenLedger refused = made.get();
-        DUE.is(what + " in the state " + made, call.applyAsLong(refused), answer);
+        String where = made instanceof State ? what + " in the state " + made : what;
+        DUE.is(where, call.applyAsLong(refused), answer);
         List<String> untouched = Snapshot.of(made.get(), SEEN, RICH);
-        DUE.same(what + " in the state " + made, Snapshot.of(refused, SEEN, RICH), untouched);
+        DUE.same(where, Snapshot.of(refused, SEEN, RICH), untouched);
     }
 
     private static long bit(boolean answer) {

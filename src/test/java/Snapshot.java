@@ -10,7 +10,7 @@ final class Snapshot {
     private Snapshot() {
     }
 
-    /** The payer has a balance, and its fee makes no 13th account. */
+    /** The payer is one whose grant and whose fee make no 13th account. */
     static List<String> of(ProvenLedger x, int[] accounts, int payer) {
         List<String> seen = new ArrayList<>();
         add(seen, "proven(0)", x.proven(0));
@@ -34,6 +34,7 @@ final class Snapshot {
         for (int account : accounts) {
             add(seen, "check(" + account + ")", x.check(account));
         }
+        add(seen, "a grant", x.grant(payer, 1));
         add(seen, "a fee", x.send(payer, payer, 0, 1, x.nonce(payer)));
         addAccounts(seen, x, accounts);
         return seen;

@@ -21,7 +21,10 @@ public final class TreeTest {
         stemOfAll();
         stemAtLeastOne();
         forkEnds();
+        forkNext();
+        forkWhenNoneHas();
         forkOfAll();
+        mostNodes();
         byHash();
         byItself();
         rootOfSome();
@@ -146,6 +149,29 @@ public final class TreeTest {
         proofIs("the digits 14 and 15", Ledgers.of(0xe000, 1, 0xf000, 1), 0, "df" + "80".repeat(14) + leaf + leaf + "80");
     }
 
+    private static void forkNext() {
+        DUE.sentence("FORK: .. for each digit .. the node, at depth d + 1, for those that have it next");
+        String fork = "df" + Ledgers.items(1, "c7 822034 83c28001", "c7 822034 83c28001");
+        String leaf = "c7 823234 83c28001";
+        proofIs("an account behind it has the same digit next", Ledgers.of(0x1134, 1, 0x1234, 1, 0x2234, 1), 0x1234,
+                "f838" + Ledgers.items(1, Hex.hashOf(fork), leaf), fork);
+        proofIs("an account before it has the same digit next", Ledgers.of(0x1134, 1, 0x1234, 1, 0x0134, 1), 0x1134,
+                "f838" + Ledgers.items(0, "c7 823134 83c28001", Hex.hashOf(fork)), fork);
+    }
+
+    private static void forkWhenNoneHas() {
+        DUE.sentence("FORK: .. or no bytes when none has (any more)");
+        String leaf = "c7 823000 83c28001";
+        ProvenLedger x = Ledgers.of(0, 1, 0x1000, 1, 0x2000, 1, 0xf000, 1);
+        proofIs("four", x, 0, "ed" + leaf + leaf + leaf + "80".repeat(12) + leaf + "80");
+        x.close(0x1000);
+        proofIs("one of them closed", x, 0, "e6" + leaf + "80" + leaf + "80".repeat(12) + leaf + "80");
+        x.close(0);
+        proofIs("two of them closed", x, 0, "df 8080" + leaf + "80".repeat(12) + leaf + "80");
+        x.close(0xf000);
+        proofIs("one of them left", x, 0, "c8 83202000 83c28001");
+    }
+
     private static void forkOfAll() {
         DUE.sentence("FORK: 17 items: .. and a last item of no bytes");
         ProvenLedger x = new ProvenLedger();
@@ -153,6 +179,30 @@ public final class TreeTest {
             x.grant(0x1000 * digit, 1);
         }
         proofIs("twelve digits", x, 0, "f865" + "80".repeat(4) + "c7 823000 83c28001".repeat(12) + "80");
+    }
+
+    // No tree has more nodes: with twelve accounts and four digits, a stem stands above each fork of two leaves.
+    private static void mostNodes() {
+        DUE.sentence("THE TREE. (with the most nodes)");
+        int[] accounts = {
+            0x1170, 0x1171, 0x1270, 0x1271, 0x2170, 0x2171, 0x2270, 0x2271, 0x3170, 0x3171, 0x3270, 0x3271,
+        };
+        ProvenLedger x = new ProvenLedger();
+        Reference reference = new Reference();
+        for (int account : accounts) {
+            x.grant(account, account);
+            reference.grant(account, account);
+        }
+        Ledgers.nodesAre(DUE, "28 nodes", x, 12, 6, 10);
+        DUE.is("size()", x.size(), reference.size());
+        for (int k = 0; k < 4; k++) {
+            DUE.is("root(" + k + ")", x.root(k), reference.root(k));
+        }
+        for (int account : accounts) {
+            DUE.is("prove(" + account + ")", x.prove(account), reference.prove(account));
+            DUE.is("check(" + account + ")", x.check(account), 1);
+            DUE.is("proven(1)", x.proven(1), account);
+        }
     }
 
     private static void byHash() {
