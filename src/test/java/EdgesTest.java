@@ -20,19 +20,45 @@ public final class EdgesTest {
 
     public static void main(String[] args) {
         mostCalls();
-        newObject();
-        collector();
-        grant();
-        send();
+        newWithoutAccounts();
+        newWithCollector0();
+        newWithoutAProof();
+        collectorFromNowOn();
+        collectorAnswers();
+        grantGrows();
+        grantBadAccount();
+        grantBadAmount();
+        grantFull();
+        sendAmong();
+        sendSame();
+        sendBadAccount();
+        sendBadAmount();
+        sendNonce();
+        sendPoor();
         sendFull();
-        close();
-        nonceAndBalance();
-        accountsRootNodesSize();
-        prove();
-        partsOfTheProof();
-        alterAndShorten();
-        check();
-        proven();
+        closeIsNotThere();
+        closeAnswers();
+        nonce();
+        balance();
+        accounts();
+        root();
+        nodes();
+        size();
+        proveInPlace();
+        proveAnswers();
+        parts();
+        length();
+        part();
+        alterBecomes();
+        alterRefused();
+        shorten();
+        checkRootAsItIsNow();
+        checkFound();
+        checkBad();
+        provenFound();
+        provenAnotherNumber();
+        provenNotFound();
+        provenWithoutACheck();
         DUE.end();
     }
 
@@ -65,7 +91,7 @@ public final class EdgesTest {
 
     // ---- promise 1
 
-    private static void newObject() {
+    private static void newWithoutAccounts() {
         DUE.sentence("1: No account is there");
         ProvenLedger x = new ProvenLedger();
         DUE.is("accounts()", x.accounts(), 0);
@@ -75,24 +101,30 @@ public final class EdgesTest {
         }
         Ledgers.nodesAre(DUE, "new", x, 0, 0, 0);
         Ledgers.rootIs(DUE, "new", x, "80");
+    }
 
+    private static void newWithCollector0() {
         DUE.sentence("1: the collector is account 0");
-        x.grant(7, 10);
+        ProvenLedger x = Ledgers.of(7, 10);
         DUE.is("a fee", x.send(7, 7, 0, 3, 0), 2);
         Ledgers.accountIs(DUE, "the collector", x, 0, 0, 3);
+    }
 
+    private static void newWithoutAProof() {
         DUE.sentence("1: no proof");
-        ProvenLedger other = new ProvenLedger();
-        DUE.is("another object has its own accounts", other.accounts(), 0);
-        DUE.is("parts()", other.parts(), 0);
-        DUE.is("check(0)", other.check(0), BAD);
-        DUE.is("proven(0)", other.proven(0), 0);
-        DUE.is("proven(1)", other.proven(1), 0);
+        ProvenLedger earlier = Ledgers.of(7, 10);
+        earlier.prove(7);
+        earlier.check(7);
+        ProvenLedger x = new ProvenLedger();
+        DUE.is("it has its own accounts", x.accounts(), 0);
+        DUE.is("parts()", x.parts(), 0);
+        DUE.is("check(0)", x.check(0), BAD);
+        provenIs("new", x, 0, 0);
     }
 
     // ---- promise 2
 
-    private static void collector() {
+    private static void collectorFromNowOn() {
         DUE.sentence("2: The fees go to this account from now on.");
         ProvenLedger x = Ledgers.of(1, 100);
         x.send(1, 1, 0, 9, 0);
@@ -105,8 +137,11 @@ public final class EdgesTest {
         x.close(65535);
         x.send(1, 1, 0, 5, 2);
         Ledgers.accountIs(DUE, "closed, it is still the collector", x, 65535, 0, 5);
+    }
 
+    private static void collectorAnswers() {
         DUE.sentence("2: Answers true; refused with false when account is not 0 .. 65535.");
+        ProvenLedger x = new ProvenLedger();
         for (int account : ACCOUNTS) {
             DUE.isTrue("collector(" + account + ")", x.collector(account));
         }
@@ -118,7 +153,7 @@ public final class EdgesTest {
 
     // ---- promise 3
 
-    private static void grant() {
+    private static void grantGrows() {
         DUE.sentence("3: The balance of an account grows by amount. Answers how many accounts are there then");
         ProvenLedger x = new ProvenLedger();
         DUE.is("the first", x.grant(5, 10), 1);
@@ -126,45 +161,43 @@ public final class EdgesTest {
         DUE.is("a second", x.grant(6, 1), 2);
         Ledgers.accountIs(DUE, "two grants", x, 5, 0, 30);
         Ledgers.accountIs(DUE, "one grant", x, 6, 0, 1);
+    }
 
+    private static void grantBadAccount() {
         DUE.sentence("3: BAD when account is not 0 .. 65535");
-        ProvenLedger some = new ProvenLedger();
+        ProvenLedger x = new ProvenLedger();
         for (int i = 0; i < ACCOUNTS.length; i++) {
-            DUE.is("grant(" + ACCOUNTS[i] + ", 1)", some.grant(ACCOUNTS[i], 1), i + 1);
+            DUE.is("grant(" + ACCOUNTS[i] + ", 1)", x.grant(ACCOUNTS[i], 1), i + 1);
         }
         for (int account : Ledgers.NO_ACCOUNTS) {
-            DUE.is("grant(" + account + ", 1)", some.grant(account, 1), BAD);
+            DUE.is("grant(" + account + ", 1)", x.grant(account, 1), BAD);
         }
+    }
 
+    private static void grantBadAmount() {
         DUE.sentence("3: BAD when .. amount is not 1 .. 1000000000000");
-        ProvenLedger amounts = new ProvenLedger();
-        DUE.is("grant(3, 0)", amounts.grant(3, 0), BAD);
-        DUE.is("grant(3, 1)", amounts.grant(3, 1), 1);
-        DUE.is("grant(3, most)", amounts.grant(3, MOST), 1);
+        ProvenLedger x = new ProvenLedger();
+        DUE.is("grant(3, 0)", x.grant(3, 0), BAD);
+        DUE.is("grant(3, 1)", x.grant(3, 1), 1);
+        DUE.is("grant(3, most)", x.grant(3, MOST), 1);
         for (long amount : new long[] {-1, MOST + 1, Long.MIN_VALUE, Long.MAX_VALUE}) {
-            DUE.is("grant(3, " + amount + ")", amounts.grant(3, amount), BAD);
+            DUE.is("grant(3, " + amount + ")", x.grant(3, amount), BAD);
         }
-        Ledgers.accountIs(DUE, "the least and the most", amounts, 3, 0, MOST + 1);
+        Ledgers.accountIs(DUE, "the least and the most", x, 3, 0, MOST + 1);
+    }
 
+    private static void grantFull() {
         DUE.sentence("3: FULL when 13 would be there");
-        ProvenLedger full = Ledgers.filled(11);
-        DUE.is("the 12th", full.grant(ABSENT, 1), 12);
-        DUE.is("the 13th", full.grant(OTHER_ABSENT, 1), ProvenLedger.FULL);
-        DUE.is("one of twelve", full.grant(ABSENT, 1), 12);
-        full.close(100);
-        DUE.is("another in place of a closed one", full.grant(OTHER_ABSENT, 1), 12);
-        DUE.is("the closed one again", full.grant(100, 1), ProvenLedger.FULL);
+        ProvenLedger x = Ledgers.filled(11);
+        DUE.is("the 12th", x.grant(ABSENT, 1), 12);
+        DUE.is("the 13th", x.grant(OTHER_ABSENT, 1), ProvenLedger.FULL);
+        DUE.is("one of twelve", x.grant(ABSENT, 1), 12);
+        x.close(100);
+        DUE.is("another in place of a closed one", x.grant(OTHER_ABSENT, 1), 12);
+        DUE.is("the closed one again", x.grant(100, 1), ProvenLedger.FULL);
     }
 
     // ---- promise 4
-
-    private static void send() {
-        sendAmong();
-        sendSame();
-        sendBad();
-        sendNonce();
-        sendPoor();
-    }
 
     private static void sendAmong() {
         DUE.sentence("4: the nonce of from grows by 1, amount and fee go from its balance, amount to .. to, fee to .. the"
@@ -216,7 +249,7 @@ public final class EdgesTest {
         DUE.is(what + ", nothing is lost", all, 100);
     }
 
-    private static void sendBad() {
+    private static void sendBadAccount() {
         DUE.sentence("4: BAD when from or to is not 0 .. 65535");
         ProvenLedger x = Ledgers.of(0, 10, 65535, 10);
         DUE.is("from 0 to 65535", x.send(0, 65535, 1, 0, 0), 2);
@@ -225,19 +258,21 @@ public final class EdgesTest {
             DUE.is("from " + account, x.send(account, 0, 0, 0, 0), BAD);
             DUE.is("to " + account, x.send(0, account, 0, 0, 1), BAD);
         }
+    }
 
+    private static void sendBadAmount() {
         DUE.sentence("4: BAD when .. amount or fee is not 0 .. 1000000000000");
-        ProvenLedger rich = Ledgers.of(1, MOST, 1, MOST, 1, MOST, 1, MOST, 1, 5);
-        DUE.is("the least of both", rich.send(1, 2, 0, 0, 0), 1);
-        DUE.is("the most of both", rich.send(1, 2, MOST, MOST, 1), 3);
-        Ledgers.accountIs(DUE, "to", rich, 2, 0, MOST);
-        Ledgers.accountIs(DUE, "the collector", rich, 0, 0, MOST);
+        ProvenLedger x = Ledgers.of(1, MOST, 1, MOST, 1, MOST, 1, MOST, 1, 5);
+        DUE.is("the least of both", x.send(1, 2, 0, 0, 0), 1);
+        DUE.is("the most of both", x.send(1, 2, MOST, MOST, 1), 3);
+        Ledgers.accountIs(DUE, "to", x, 2, 0, MOST);
+        Ledgers.accountIs(DUE, "the collector", x, 0, 0, MOST);
         for (long amount : new long[] {-1, MOST + 1, Long.MIN_VALUE, Long.MAX_VALUE}) {
-            DUE.is("the amount " + amount, rich.send(1, 2, amount, 0, 2), BAD);
-            DUE.is("the fee " + amount, rich.send(1, 2, 0, amount, 2), BAD);
+            DUE.is("the amount " + amount, x.send(1, 2, amount, 0, 2), BAD);
+            DUE.is("the fee " + amount, x.send(1, 2, 0, amount, 2), BAD);
         }
-        DUE.is("one of both too small, together right", rich.send(1, 2, 2, -1, 2), BAD);
-        DUE.is("one of both too small, together right", rich.send(1, 2, -1, 2, 2), BAD);
+        DUE.is("one of both too small, together right", x.send(1, 2, 2, -1, 2), BAD);
+        DUE.is("one of both too small, together right", x.send(1, 2, -1, 2, 2), BAD);
     }
 
     private static void sendNonce() {
@@ -324,7 +359,7 @@ public final class EdgesTest {
 
     // ---- promise 5
 
-    private static void close() {
+    private static void closeIsNotThere() {
         DUE.sentence("5: The account is not there any more: nonce and balance are 0.");
         ProvenLedger x = Ledgers.of(1, 10, 2, 10);
         x.send(1, 1, 0, 0, 0);
@@ -338,7 +373,9 @@ public final class EdgesTest {
         }
         Ledgers.rootIs(DUE, "all closed", x, "80");
         DUE.is("its nonce begins anew", x.send(1, 1, 0, 0, 0), 1);
+    }
 
+    private static void closeAnswers() {
         DUE.sentence("5: Answers true; refused with false when it is not there (or account is not 0 .. 65535).");
         ProvenLedger ends = Ledgers.of(0, 1, 65535, 1);
         DUE.isFalse("close(1)", ends.close(1));
@@ -359,21 +396,23 @@ public final class EdgesTest {
 
     // ---- promises 6 and 7
 
-    private static void nonceAndBalance() {
+    private static void nonce() {
+        DUE.sentence("6: The nonce of an account; 0 when account is not 0 .. 65535.");
         ProvenLedger x = Ledgers.of(0, 3, 65535, 4);
         x.send(0, 0, 0, 0, 0);
         x.send(65535, 65535, 0, 0, 0);
         x.send(65535, 65535, 0, 0, 1);
-
-        DUE.sentence("6: The nonce of an account; 0 when account is not 0 .. 65535.");
         DUE.is("nonce(0)", x.nonce(0), 1);
         DUE.is("nonce(65535)", x.nonce(65535), 2);
         DUE.is("nonce(1), not there", x.nonce(1), 0);
         for (int account : Ledgers.NO_ACCOUNTS) {
             DUE.is("nonce(" + account + ")", x.nonce(account), 0);
         }
+    }
 
+    private static void balance() {
         DUE.sentence("7: The balance of an account; 0 when account is not 0 .. 65535.");
+        ProvenLedger x = Ledgers.of(0, 3, 65535, 4);
         DUE.is("balance(0)", x.balance(0), 3);
         DUE.is("balance(65535)", x.balance(65535), 4);
         DUE.is("balance(1), not there", x.balance(1), 0);
@@ -384,23 +423,28 @@ public final class EdgesTest {
 
     // ---- promises 8 to 11
 
-    private static void accountsRootNodesSize() {
+    private static void accounts() {
         DUE.sentence("8: How many accounts are there.");
         DUE.is("none", new ProvenLedger().accounts(), 0);
         DUE.is("one", Ledgers.filled(1).accounts(), 1);
         DUE.is("eleven", Ledgers.filled(11).accounts(), 11);
         DUE.is("all", Ledgers.filled(12).accounts(), 12);
         DUE.is("all and one more", Ledgers.filled(13).accounts(), 12);
+    }
 
+    private static void root() {
         DUE.sentence("9: Bytes 8 * k .. 8 * k + 7 of the root, the highest first, as one long; 0 when k is not 0 .. 3.");
         ProvenLedger x = Ledgers.of(0x1234, 7);
         Ledgers.rootIs(DUE, "a leaf", x, "c8 83201234 83c28007");
         for (int k : new int[] {-1, 4, 5, Integer.MIN_VALUE, Integer.MAX_VALUE}) {
             DUE.is("root(" + k + ")", x.root(k), 0);
         }
+    }
 
+    private static void nodes() {
         DUE.sentence("10: How many nodes the tree has: leaves (0), stems (1) or forks (2); BAD for another kind.");
         Ledgers.nodesAre(DUE, "none", new ProvenLedger(), 0, 0, 0);
+        ProvenLedger x = Ledgers.of(0x1234, 7);
         Ledgers.nodesAre(DUE, "one", x, 1, 0, 0);
         ProvenLedger pairs = new ProvenLedger();
         for (int i = 0; i < 6; i++) {
@@ -423,9 +467,12 @@ public final class EdgesTest {
             DUE.is("nodes(" + kind + ")", x.nodes(kind), BAD);
             DUE.is("nodes(" + kind + ") of none", new ProvenLedger().nodes(kind), BAD);
         }
+    }
 
+    private static void size() {
         DUE.sentence("11: The number of bytes of the code of the node for all accounts; 1 when there are none.");
         DUE.is("none", new ProvenLedger().size(), 1);
+        ProvenLedger x = Ledgers.of(0x1234, 7);
         DUE.is("one", x.size(), 9);
         DUE.is("all", Ledgers.fork(12, 0).size(), 103);
         DUE.is("all, with longer balances", Ledgers.fork(12, 60).size(), 163);
@@ -435,7 +482,7 @@ public final class EdgesTest {
 
     // ---- promise 12
 
-    private static void prove() {
+    private static void proveInPlace() {
         DUE.sentence("12: Makes the proof for an account, in place of what there was.");
         ProvenLedger x = Ledgers.deep();
         x.prove(0x8001);
@@ -450,22 +497,24 @@ public final class EdgesTest {
         DUE.is("parts()", fresh.parts(), 1);
         DUE.is("length(1)", fresh.length(1), BAD);
         DUE.is("part(1, 0)", fresh.part(1, 0), BAD);
+    }
 
+    private static void proveAnswers() {
         DUE.sentence("12: Answers the number of its parts; BAD when account is not 0 .. 65535.");
-        ProvenLedger some = Ledgers.of(0, 1, 65535, 1);
+        ProvenLedger x = Ledgers.of(0, 1, 65535, 1);
         for (int account : ACCOUNTS) {
-            DUE.is("prove(" + account + ")", some.prove(account), 1);
+            DUE.is("prove(" + account + ")", x.prove(account), 1);
             DUE.is("prove(" + account + ") with none there", new ProvenLedger().prove(account), 1);
         }
         for (int account : Ledgers.NO_ACCOUNTS) {
-            DUE.is("prove(" + account + ")", some.prove(account), BAD);
+            DUE.is("prove(" + account + ")", x.prove(account), BAD);
             DUE.is("prove(" + account + ") with none there", new ProvenLedger().prove(account), BAD);
         }
     }
 
     // ---- promises 13 to 15
 
-    private static void partsOfTheProof() {
+    private static void parts() {
         DUE.sentence("13: How many parts the proof has.");
         ProvenLedger x = Ledgers.deep();
         DUE.is("none made", x.parts(), 0);
@@ -477,8 +526,11 @@ public final class EdgesTest {
         DUE.is("one", x.parts(), 1);
         x.shorten();
         DUE.is("none left", x.parts(), 0);
+    }
 
+    private static void length() {
         DUE.sentence("14: The number of bytes of part p; BAD when there is none.");
+        ProvenLedger x = Ledgers.deep();
         DUE.is("length(0) of none", x.length(0), BAD);
         x.prove(0x8001);
         DUE.is("length(0)", x.length(0), x.size());
@@ -487,8 +539,12 @@ public final class EdgesTest {
             DUE.is("length(" + p + ")", x.length(p), BAD);
         }
         DUE.is("length(0) of no accounts", afterProve(new ProvenLedger()).length(0), 1);
+    }
 
+    private static void part() {
         DUE.sentence("15: Byte i of part p; BAD when there is none.");
+        ProvenLedger x = Ledgers.deep();
+        x.prove(0x8001);
         DUE.is("part(3, 0)", x.part(3, 0), 192 + 34);
         DUE.is("part(3, 34)", x.part(3, 34), 128);
         for (int p = 0; p < 4; p++) {
@@ -514,7 +570,7 @@ public final class EdgesTest {
 
     // ---- promises 16 and 17
 
-    private static void alterAndShorten() {
+    private static void alterBecomes() {
         DUE.sentence("16: Byte i of part p becomes b. Answers whether it was another one");
         ProvenLedger x = Ledgers.deep();
         x.prove(0x8001);
@@ -523,8 +579,12 @@ public final class EdgesTest {
         alters(x, 3, 0);
         alters(x, 3, 34);
         DUE.is("all is as it was", x.check(0x8001), 1);
+    }
 
+    private static void alterRefused() {
         DUE.sentence("16: refused with false when there is no such byte or b is not 0 .. 255");
+        ProvenLedger x = Ledgers.deep();
+        x.prove(0x8001);
         DUE.isFalse("without a proof", new ProvenLedger().alter(0, 0, 5));
         for (int b : new int[] {-1, 256, Integer.MIN_VALUE, Integer.MAX_VALUE}) {
             DUE.isFalse("alter(3, 34, " + b + ")", x.alter(3, 34, b));
@@ -537,9 +597,13 @@ public final class EdgesTest {
         }
         DUE.isFalse("one byte, no second one", afterProve(new ProvenLedger()).alter(0, 1, 5));
         DUE.is("all is as it was", x.check(0x8001), 1);
+    }
 
+    private static void shorten() {
         DUE.sentence("17: The last part of the proof goes. Answers how many are left; BAD when there are none.");
-        DUE.is("none made", new ProvenLedger().shorten(), BAD);
+        ProvenLedger x = Ledgers.deep();
+        DUE.is("none made", x.shorten(), BAD);
+        x.prove(0x8001);
         for (int left = 3; left >= 0; left--) {
             DUE.is("shorten()", x.shorten(), left);
             DUE.is("parts()", x.parts(), left);
@@ -565,7 +629,7 @@ public final class EdgesTest {
 
     // ---- promise 18
 
-    private static void check() {
+    private static void checkRootAsItIsNow() {
         DUE.sentence("18: Checks the proof for an account against the root as it is now.");
         ProvenLedger x = Ledgers.deep();
         x.prove(0x8001);
@@ -584,35 +648,41 @@ public final class EdgesTest {
         altered.alter(0, 8, 8);
         DUE.is("altered to what the root has become", altered.check(0x1234), 1);
         DUE.is("proven(1)", altered.proven(1), 8);
+    }
 
+    private static void checkFound() {
         DUE.sentence("18: Answers 1 when it is good and the account is found, 0 when it is good and it is not found");
-        ProvenLedger all = Ledgers.deep();
+        ProvenLedger x = Ledgers.deep();
         for (int account : Ledgers.DEEP) {
-            all.prove(account);
-            DUE.is("check(" + account + "), there", all.check(account), 1);
-            all.prove(account ^ 0xf);
-            DUE.is("check(" + (account ^ 0xf) + "), not there", all.check(account ^ 0xf), 0);
-            all.prove(account ^ 0x300);
-            DUE.is("check(" + (account ^ 0x300) + "), not there", all.check(account ^ 0x300), 0);
+            x.prove(account);
+            DUE.is("check(" + account + "), there", x.check(account), 1);
+            x.prove(account ^ 0xf);
+            DUE.is("check(" + (account ^ 0xf) + "), not there", x.check(account ^ 0xf), 0);
+            x.prove(account ^ 0x300);
+            DUE.is("check(" + (account ^ 0x300) + "), not there", x.check(account ^ 0x300), 0);
         }
         ProvenLedger none = afterProve(new ProvenLedger());
         for (int account : ACCOUNTS) {
             DUE.is("check(" + account + ") with none there", none.check(account), 0);
         }
+    }
 
+    private static void checkBad() {
         DUE.sentence("18: BAD when it is not good, or account is not 0 .. 65535");
-        all.prove(0x8001);
-        DUE.is("for one with the same way", all.check(0x8000), 1);
-        DUE.is("for none with the same way", all.check(0x800f), 0);
-        DUE.is("for one that ends in an earlier part", all.check(0x8100), BAD);
-        DUE.is("for none that ends in an earlier part", all.check(0x7000), BAD);
-        DUE.is("for one with another way", all.check(0), BAD);
+        ProvenLedger x = Ledgers.deep();
+        ProvenLedger none = afterProve(new ProvenLedger());
+        x.prove(0x8001);
+        DUE.is("for one with the same way", x.check(0x8000), 1);
+        DUE.is("for none with the same way", x.check(0x800f), 0);
+        DUE.is("for one that ends in an earlier part", x.check(0x8100), BAD);
+        DUE.is("for none that ends in an earlier part", x.check(0x7000), BAD);
+        DUE.is("for one with another way", x.check(0), BAD);
         for (int account : Ledgers.NO_ACCOUNTS) {
-            DUE.is("check(" + account + ")", all.check(account), BAD);
+            DUE.is("check(" + account + ")", x.check(account), BAD);
             DUE.is("check(" + account + ") with none there", none.check(account), BAD);
         }
-        all.shorten();
-        DUE.is("a part less", all.check(0x8001), BAD);
+        x.shorten();
+        DUE.is("a part less", x.check(0x8001), BAD);
         none.shorten();
         DUE.is("no parts", none.check(0), BAD);
         ProvenLedger ends = Ledgers.of(0, 1, 65535, 1);
@@ -623,7 +693,7 @@ public final class EdgesTest {
 
     // ---- promise 19
 
-    private static void proven() {
+    private static void provenFound() {
         DUE.sentence("19: The nonce (0) or the balance (1) with which the latest check() found its account");
         ProvenLedger x = Ledgers.deep();
         x.send(0x8001, 0x8001, 0, 0, 0);
@@ -646,28 +716,39 @@ public final class EdgesTest {
         rich.prove(0xffff);
         rich.check(0xffff);
         provenIs("a long balance", rich, 0, 300 * MOST);
+    }
 
+    private static void provenAnotherNumber() {
         DUE.sentence("19: 0 for another number");
+        ProvenLedger x = Ledgers.of(0x1234, 7);
+        x.send(0x1234, 0x1234, 0, 0, 0);
+        x.prove(0x1234);
+        x.check(0x1234);
+        provenIs("0 and 1", x, 1, 7);
         for (int what : new int[] {-1, 2, 3, Integer.MIN_VALUE, Integer.MAX_VALUE}) {
             DUE.is("proven(" + what + ")", x.proven(what), 0);
         }
+    }
 
+    private static void provenNotFound() {
         DUE.sentence("19: 0 .. when the latest check() did not answer 1 (also when it answered BAD, for whatever account)");
-        ProvenLedger other = Ledgers.deep();
-        other.send(0x8001, 0x8001, 0, 0, 0);
-        other.prove(0x8001);
+        ProvenLedger x = Ledgers.deep();
+        x.send(0x8001, 0x8001, 0, 0, 0);
+        x.prove(0x8001);
         for (int account : new int[] {0x800f, 0x8100, 0, -1, 65536, Integer.MIN_VALUE, Integer.MAX_VALUE}) {
-            other.check(0x8001);
-            provenIs("found", other, 1, 500);
-            other.check(account);
-            provenIs("then check(" + account + ")", other, 0, 0);
+            x.check(0x8001);
+            provenIs("found", x, 1, 500);
+            x.check(account);
+            provenIs("then check(" + account + ")", x, 0, 0);
         }
-        other.check(0x8001);
-        other.shorten();
-        provenIs("found, then shortened", other, 1, 500);
-        other.check(0x8001);
-        provenIs("then checked", other, 0, 0);
+        x.check(0x8001);
+        x.shorten();
+        provenIs("found, then shortened", x, 1, 500);
+        x.check(0x8001);
+        provenIs("then checked", x, 0, 0);
+    }
 
+    private static void provenWithoutACheck() {
         DUE.sentence("19: 0 .. or there was none");
         provenIs("a new object", new ProvenLedger(), 0, 0);
         ProvenLedger unchecked = Ledgers.deep();
