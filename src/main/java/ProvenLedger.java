@@ -178,6 +178,7 @@ public final class ProvenLedger {
         return proof.count();
     }
 
+    // A check that is refused is the latest one all the same, so that nothing is proven behind it.
     public int check(int account) {
         tree.refresh();
         latestCheck = isAccount(account) ? way.follow(account, tree.rootRow()) : BAD;

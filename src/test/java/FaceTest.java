@@ -8,6 +8,7 @@ import java.nio.file.Path;
 import java.util.Arrays;
 import java.util.Set;
 import java.util.TreeSet;
+import java.util.regex.Matcher;
 import java.util.regex.Pattern;
 
 /** The public face, and those rules of LANGUAGE.md that the class file or the text shows. */
@@ -28,6 +29,14 @@ public final class FaceTest {
         "Exact\\(", "\\bnew Object\\b", "\\bInteger\\b", "\\bSystem\\.(?!arraycopy)", "\\bprotected\\b",
     };
 
+    private static final Set<String> LIBRARY = Set.of("Math.max", "System.arraycopy");
+    private static final Set<Class<?>> NUMBERS = Set.of(int.class, long.class, boolean.class);
+    private static final Set<Class<?>> ROWS = Set.of(int[].class, long[].class);
+    private static final int MOST_LINES = 60;
+    // From the line of a method's name to the brace that stands under the name's beginning.
+    private static final Pattern METHOD = Pattern.compile(
+            "(?ms)^(    |        )(?! )[\\w\\[\\] ]+\\([^\\n]*\\) \\{$.*?^\\1\\}$");
+
     private FaceTest() {
     }
 
@@ -36,8 +45,11 @@ public final class FaceTest {
         for (Class<?> inside : ProvenLedger.class.getDeclaredClasses()) {
             insideClass(inside);
         }
-        staticFields(ProvenLedger.class);
-        text();
+        fields(ProvenLedger.class);
+        String text = Files.readString(SOURCE).replaceAll("(?s)/\\*.*?\\*/", "").replaceAll("//[^\n]*", "");
+        unwanted(text);
+        library(text);
+        methodsAreShort(text);
         DUE.end();
     }
 
@@ -81,13 +93,21 @@ public final class FaceTest {
             nameIsNotOfTheFace(method);
             DUE.isTrue(method + " has few parameters", method.getParameterCount() <= 7);
         }
-        staticFields(inside);
+        fields(inside);
     }
 
-    private static void staticFields(Class<?> type) {
+    // Rules 3 and 5.
+    private static void fields(Class<?> type) {
         for (Field field : type.getDeclaredFields()) {
-            int modifiers = field.getModifiers();
-            DUE.isTrue(field + " is final", !Modifier.isStatic(modifiers) || Modifier.isFinal(modifiers));
+            Class<?> kind = field.getType();
+            if (Modifier.isStatic(field.getModifiers())) {
+                DUE.isTrue(field + " is final", Modifier.isFinal(field.getModifiers()));
+                DUE.isTrue(field + " is a constant", NUMBERS.contains(kind) || ROWS.contains(kind));
+            } else {
+                boolean own = kind.getNestHost() == ProvenLedger.class;
+                boolean row = ROWS.contains(kind) || kind == int[][].class || kind == ProvenLedger.Node[].class;
+                DUE.isTrue(field + " has a type of rule 3", own || row || NUMBERS.contains(kind));
+            }
         }
     }
 
@@ -102,10 +122,29 @@ public final class FaceTest {
         }
     }
 
-    private static void text() throws Exception {
-        String text = Files.readString(SOURCE).replaceAll("(?s)/\\*.*?\\*/", "").replaceAll("//[^\n]*", "");
+    private static void unwanted(String text) {
         for (String unwanted : UNWANTED) {
             DUE.isFalse("the text has " + unwanted, Pattern.compile(unwanted).matcher(text).find());
         }
+    }
+
+    // Rule 4: what is called by the name of a class is the library's, for the program so calls nothing of its own.
+    private static void library(String text) {
+        Matcher call = Pattern.compile("\\b[A-Z]\\w*[a-z]\\w*\\.\\w+").matcher(text);
+        while (call.find()) {
+            DUE.isTrue("the library's " + call.group(), LIBRARY.contains(call.group()));
+        }
+    }
+
+    // Rule 11.
+    private static void methodsAreShort(String text) {
+        Matcher method = METHOD.matcher(text);
+        int methods = 0;
+        while (method.find()) {
+            long lines = method.group().lines().count();
+            DUE.isTrue(method.group().lines().findFirst().orElse("") + " has " + lines + " lines", lines <= MOST_LINES);
+            methods++;
+        }
+        DUE.isTrue("methods seen: " + methods, methods > FACE.size());
     }
 }

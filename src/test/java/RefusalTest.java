@@ -239,13 +239,16 @@ public final class RefusalTest {
         refused(shortened, "shorten()", x -> x.shorten(), ProvenLedger.BAD);
     }
 
-    // That the latest check() then found nothing is promise 19.
+    // It changes nothing but what promise 19 says of every check() that answered BAD, for whatever account.
     private static void checkRefused() {
         DUE.sentence("check: BAD when .. account is not 0 .. 65535");
         for (State state : State.values()) {
             for (int account : Ledgers.NO_ACCOUNTS) {
                 ProvenLedger refused = state.get();
                 DUE.is("check(" + account + ")", refused.check(account), ProvenLedger.BAD);
+                for (int what = -1; what <= 2; what++) {
+                    DUE.is("then proven(" + what + ") in the state " + state, refused.proven(what), 0);
+                }
                 DUE.same("check(" + account + ") in the state " + state,
                         Snapshot.withoutProven(refused, SEEN, RICH), Snapshot.withoutProven(state.get(), SEEN, RICH));
             }
